@@ -92,8 +92,9 @@ public final class LentRoom {
             case 'f':
                 return device.changeFloor(s, number);
             default:
+                int last = text.number(at + 4, 2);
                 boolean done = true;
-                for (int page = number; page <= text.number(at + 4, 2); page++) {
+                for (int page = number; page <= last; page++) {
                     done = device.putPage(s, page) != NONE;
                 }
                 return done;

@@ -14,6 +14,7 @@ final class ActionTest {
         recallMovesToCommonRoom();
         recallMovesToAnotherLender();
         recallTakesTheOldest();
+        recallTakesTheFirstOfAll();
         wrongPages();
         trimming();
         floors();
@@ -118,6 +119,12 @@ final class ActionTest {
         Check.due("nothing is lost", 0, () -> y.about(7));
         Check.due("it is a recall", 1, () -> y.space(0, 8));
         Check.due("about(1)", 59, () -> y.about(1));
+        y.write(0, 11);
+        Check.due("own again", 2, () -> y.space(1, 3));
+        Check.due("nothing is lost", 0, () -> y.about(7));
+        y.write(0, 12);
+        Check.due("its floor is full", 2, () -> y.space(1, 3));
+        Check.due("so one is lost", 1, () -> y.about(7));
     }
 
     private static void recallMovesToCommonRoom() {
@@ -162,6 +169,18 @@ final class ActionTest {
         Check.due("time(1, 2)", 42, () -> x.time(1, 2));
         Check.due("space(1, 2)", 38, () -> x.space(1, 2));
         Check.due("about(1)", 60, () -> x.about(1));
+    }
+
+    private static void recallTakesTheFirstOfAll() {
+        LentRoom x = Check.device("Ds6060s0060w139r10038");
+        Check.writeAll(x, 0, 0, 19);
+        Check.due("write(0, 20)", 2, () -> x.write(0, 20));
+        Check.due("the page with time 1", -1, () -> x.time(1, 39));
+        Check.due("oldest(1, 0)", 0, () -> x.oldest(1, 0));
+        String before = Check.picture(x);
+        x.write(0, 21);
+        Check.due("undo() of a recall", 13, x::undo);
+        Check.same("everything behind it", Check.picture(x), before);
     }
 
     private static void wrongPages() {

@@ -106,22 +106,28 @@ final class ForecastTest {
         twoForEachLost();
     }
 
-    /** A space with 3 recalls and 2 lost pages is less noisy than one with neither. */
+    /** Space 1 recalls 10 times; then it loses 4 pages, which leaves 2, and 2 more, which leaves -2. */
     private static void twoForEachLost() {
-        LentRoom x = Check.device("Ds2040s2040s2040r00019r10022r20019");
-        Check.due("space(2, 8)", 3, () -> x.space(2, 8));
-        Check.due("space(1, 9)", 3, () -> x.space(1, 9));
-        Check.due("noisy()", 2, x::noisy);
-        // Spaces 0 to 1 trim; 2 borrows of both, and loses what they recall.
-        for (int page = 0; page < 2; page++) {
-            x.trim(0, page);
+        LentRoom x = Check.device("Ds0060s3060s3040r20039r10029");
+        Check.due("space(1, 8)", 10, () -> x.space(1, 8));
+        Check.due("space(2, 9)", 10, () -> x.space(2, 9));
+        for (int page = 10; page < 20; page++) {
+            x.trim(2, page);
         }
-        Check.writeAll(x, 2, 20, 21);
-        Check.writeAll(x, 0, 0, 0);
-        Check.due("3 recalls, 1 lost", 1, () -> x.space(2, 9));
-        Check.due("1 - 0 against 3 - 2", 0, x::noisy);
-        Check.writeAll(x, 0, 1, 1);
-        Check.due("2 - 0 against 3 - 4", 0, x::noisy);
+        Check.writeAll(x, 1, 30, 33);
+        Check.writeAll(x, 2, 0, 9);
+        Check.due("space(1, 9)", 4, () -> x.space(1, 9));
+        Check.due("10 - 2 * 4 against 0", 1, x::noisy);
+        x.trim(2, 20);
+        x.trim(2, 21);
+        Check.writeAll(x, 1, 34, 35);
+        Check.writeAll(x, 2, 10, 11);
+        Check.due("space(1, 9)", 6, () -> x.space(1, 9));
+        Check.due("10 - 2 * 6 against 0", 0, x::noisy);
+        x.undo();
+        Check.due("10 - 2 * 5 against 0", 0, x::noisy);
+        Check.due("space(1, 9) behind undo", 5, () -> x.space(1, 9));
+        Check.due("space(2, 8) behind undo", 5, () -> x.space(2, 8));
     }
 
     private static void bounds() {

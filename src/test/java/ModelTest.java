@@ -7,11 +7,11 @@ final class ModelTest {
         "Ds2060s0060s4040r20037r10009f238", "Ds1020s1020s1020s1020s1020", "Ds3060s2560s0540s0060r30039r20004",
         "Ds1560s1560s1560s0060s1515r30039"};
 
-    private static long row = 1;
+    private static long numbers = 1;
 
     private static int next(int bound) {
-        row = row * 2862933555777941757L + 3037000493L;
-        return (int) ((row >>> 33) % bound);
+        numbers = numbers * 2862933555777941757L + 3037000493L;
+        return (int) ((numbers >>> 33) % bound);
     }
 
     /** Most often a number that is in range, now and then one around it. */
@@ -40,14 +40,31 @@ final class ModelTest {
             Check.due("load() of " + beginning, model.load(), x::load);
             boolean agrees = true;
             while (made < CALLS && agrees) {
-                agrees = call(x, model, run, calls);
-                made++;
+                int more = next(12) == 0 ? 1 + next(12) : 1;
+                agrees = more == 1 ? call(x, model, run, calls) : row(x, model, more, calls);
+                made += more;
             }
             if (!agrees) {
                 break;
             }
         }
         Check.finish();
+    }
+
+    /** Writes or trims pages that stand in a row, so that spaces grow and shrink by much. */
+    private static boolean row(LentRoom x, Model model, int more, StringBuilder calls) {
+        int s = next(Math.max(1, model.about(0)));
+        int first = next(40);
+        int kind = next(3) < 2 ? 0 : 40;
+        boolean agrees = true;
+        for (int k = 0; k < more && agrees; k++) {
+            int page = (first + k) % 40;
+            String want = changed(s, page, 0, kind, calls, model);
+            String got = changed(s, page, 0, kind, null, x);
+            Check.same(calls.toString(), got, want);
+            agrees = got.equals(want);
+        }
+        return agrees;
     }
 
     private static boolean call(LentRoom x, Model model, int run, StringBuilder calls) {
@@ -57,13 +74,18 @@ final class ModelTest {
         int t = near(spaces);
         int page = near(40);
         int size = near(61);
+        // a floor that is possible has to lie between these two
+        if (kind >= 52 && kind < 58 && s >= 0 && s < model.about(0) && next(3) > 0) {
+            int least = model.leastFloor(s);
+            size = least - 1 + next(model.mostFloor(s) - least + 3);
+        }
         int length = calls.length();
         String got;
         String want;
         if (kind < 70) {
             want = changed(s, page, size, kind, calls, model);
             got = changed(s, page, size, kind, null, x);
-        } else if (kind < 96) {
+        } else if (kind < 99 || next(2) == 0) {
             int what = near(12);
             int commands = near(4);
             long script = script(commands, spaces);
