@@ -197,6 +197,8 @@ final class SpaceEdgeTest {
         Sentence.of("Promise 10", "Returns the page; NONE if there are not so many.")
             .holds("make(0, 60); oldest(0, 0) = -1; write(0, 5) = 3; oldest(0, 0) = 5; oldest(0, 1) = -1",
                 "oldest(0, MOST) = -1; trim(0, 5) = 0; oldest(0, 0) = -1")
+            .holds("make(0, 60); oldest(0, 1) = -1; oldest(0, 39) = -1; fill(0, 4, 5) = 3; oldest(0, 1) = 5",
+                "oldest(0, 2) = -1; oldest(0, 3) = -1; oldest(0, 38) = -1; oldest(0, 39) = -1; oldest(0, 40) = -1")
             .holds("device(Ds0060r00039w000) = 0; oldest(0, 0) = 1; oldest(0, 38) = 39; oldest(0, 39) = 0",
                 "oldest(0, 40) = -1; oldest(0, 41) = -1; oldest(0, MOST) = -1");
         Sentence.of("Promise 10", "Throws `IndexOutOfBoundsException` if there is no such space")
